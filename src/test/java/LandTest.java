@@ -145,6 +145,9 @@ public final class LandTest {
         DUE.is("snow(2, 0)", x.snow(2, 0), 0);
         DUE.is("give(1, 0)", x.give(1, 0), 170);
         DUE.is("ofPass(1, 0)", x.ofPass(1, 0), CheeseValleys.UNKNOWN);
+        x.give(1, 255);
+        DUE.is("soonest(0): no pass stays", x.soonest(0), CheeseValleys.NONE);
+        DUE.is("holes(0): no pass stays", x.holes(0), CheeseValleys.NONE);
         DUE.is("cell(0, 0, 0): the sheet stays", x.cell(0, 0, 0), 118);
     }
 

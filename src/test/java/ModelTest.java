@@ -5,7 +5,8 @@ import java.util.Random;
 /** Runs of calls, some likely and some wild, each answered by the class and by the model. */
 public final class ModelTest {
     private static final int RUNS = 600;
-    private static final int CALLS = 500;
+    /** A land may still be told at the end: 512 calls are promised. */
+    private static final int CALLS = 440;
     private static final int[] WILD = {
         Integer.MIN_VALUE, Integer.MIN_VALUE + 1, -100, -9, -2, -1, 0, 8, 9, 60, 61, 255, 256,
         Integer.MAX_VALUE - 1, Integer.MAX_VALUE,

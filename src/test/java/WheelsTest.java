@@ -67,6 +67,9 @@ public final class WheelsTest {
         x.give(0, 0);
         DUE.is("holes(0), no milk", x.holes(0), CheeseValleys.NONE);
         DUE.is("holes(-1)", x.holes(-1), CheeseValleys.OUTSIDE);
+        // Salt needs rennet, and that comes on day 2 alone.
+        Due.landBy(x, "v00000000;001;004;255,p0111,p1211");
+        DUE.is("holes(0), rennet on day 2", x.holes(0), 1);
         // Fewer days of waiting may end later than the soonest.
         Due.landBy(x, "v00000000;001;002;136,p0111,p1211,t1230");
         DUE.is("soonest(0)", x.soonest(0), 3);
