@@ -1,6 +1,5 @@
 /** Terms 3 and 4, promises 10 to 13 and 20: fairs, odds. */
 final class FairBounds {
-    private static final int OUTSIDE = CheeseValleys.OUTSIDE, STATE = CheeseValleys.STATE;
     private static final int NONE = CheeseValleys.NONE, HERE = Cases.HERE;
     private static final String PLAIN = Due.PLAIN;
 
@@ -155,8 +154,8 @@ final class FairBounds {
     }
 
     private void odds() {
-        c.terms(4, "ODDS of a VALLEY (1, 2), a WHEEL of a DAY and a fair: if each DAY on which that VALLEY GIVES is held"
-                + " back, or is not, all such sets alike: the share of those by which it can be DONE by then.");
+        c.terms(4, "ODDS of a VALLEY (1, 2), a WHEEL of a DAY and a fair: if each DAY on which that VALLEY GIVES is"
+                + " held back, or is not, all such sets alike: the share of those by which it can be DONE by then.");
         c.inLand(PLAIN);
         share(1, 2, 2, 0, 2);
         share(3, 4, 2, 0, 3);
@@ -185,41 +184,22 @@ final class FairBounds {
 
     // ---- the calls
 
-    private void fairCall(int promise, String name, String says, int onLast) {
-        c.promise(promise, says);
-        c.inLand(PLAIN);
-        c.due(NONE, name, 0);
-        c.due(onLast, name, 7);
-        c.promise(promise, "OUTSIDE");
-        c.outside(OUTSIDE, 0, 7, name, HERE);
-        c.inLand(PLAIN);
-        c.outside(OUTSIDE, 0, 7, name, HERE);
-        c.promise(promise, "STATE: there is no LAND.");
-        c.refused(STATE, name, 0);
-        c.refused(STATE, name, 7);
-    }
-
     private void callsOfAFair() {
-        fairCall(10, "last", "LAST; NONE.", 5);
-        fairCall(11, "safe", "SAFE; NONE.", 3);
-    }
-
-    private void dayAndFairCall(int promise, String name) {
-        c.promise(promise, "OUTSIDE: day, fair");
-        c.outside(OUTSIDE, 0, 7, name, HERE, 0);
-        c.outside(OUTSIDE, 0, 7, name, 0, HERE);
+        CommonBounds common = new CommonBounds(c);
+        c.promise(10, "LAST; NONE.");
         c.inLand(PLAIN);
-        c.outside(OUTSIDE, 0, 7, name, HERE, 7);
-        c.outside(OUTSIDE, 0, 7, name, 7, HERE);
-        c.outside(OUTSIDE, 0, 7, name, HERE, HERE);
-        c.promise(promise, "STATE: there is no LAND.");
-        c.refused(STATE, name, 0, 0);
-        c.refused(STATE, name, 0, 7);
-        c.refused(STATE, name, 7, 0);
-        c.refused(STATE, name, 7, 7);
+        c.due(NONE, "last", 0);
+        c.due(5, "last", 7);
+        common.refusalsOfADay(10, "last");
+        c.promise(11, "SAFE; NONE.");
+        c.inLand(PLAIN);
+        c.due(NONE, "safe", 0);
+        c.due(3, "safe", 7);
+        common.refusalsOfADay(11, "safe");
     }
 
     private void callsOfADayAndAFair() {
+        CommonBounds common = new CommonBounds(c);
         c.promise(12, "HANGS, as a set (0: on none, or it can't be at all).");
         c.inLand("v00000000;255;255;255,p0111,p1211,p0111,p1211");
         c.due(0, "hangs", 0, 7);
@@ -230,14 +210,14 @@ final class FairBounds {
         c.due(0, "hangs", 0, 7);
         c.inLand(PLAIN);
         c.due(3, "hangs", 0, 7);
-        dayAndFairCall(12, "hangs");
+        common.refusalsOfADayAndAFair(12, "hangs");
         c.promise(13, "PEACE; NONE.");
         c.inLand(PLAIN);
         c.due(0, "peace", 0, 7);
         c.due(NONE, "peace", 0, 0);
         c.due(NONE, "peace", 7, 7);
         c.due(NONE, "peace", 7, 0);
-        dayAndFairCall(13, "peace");
+        common.refusalsOfADayAndAFair(13, "peace");
     }
 
     private void oddsCall() {

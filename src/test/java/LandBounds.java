@@ -196,13 +196,7 @@ final class LandBounds {
         c.due(63, "open", 0);
         c.does("snow", 0, 9);
         c.due(0, "open", 0);
-        c.promise(6, "OUTSIDE");
-        c.outside(OUTSIDE, 0, 7, "open", HERE);
-        c.inLand(ONE);
-        c.outside(OUTSIDE, 0, 7, "open", HERE);
-        c.promise(6, "STATE: there is no LAND.");
-        c.refused(STATE, "open", 0);
-        c.refused(STATE, "open", 7);
+        new CommonBounds(c).refusalsOfADay(6, "open");
     }
 
     private void many() {

@@ -22,8 +22,7 @@ final class ReadingBounds {
         readingCall();
         backCall();
         snowsCall();
-        heightsCall();
-        kindsCall();
+        heightsAndKindsCalls();
         gaveCall();
     }
 
@@ -250,49 +249,31 @@ final class ReadingBounds {
         for (int day = 0; day < 8; day++) {
             c.due(day == 7 ? 1023 : 1, "snows", day);
         }
-        c.promise(16, "OUTSIDE");
-        c.outside(OUTSIDE, 0, 7, "snows", HERE);
-        full();
-        c.outside(OUTSIDE, 0, 7, "snows", HERE);
-        c.promise(16, "STATE: there is no LAND.");
-        c.refused(STATE, "snows", 0);
-        c.refused(STATE, "snows", 7);
+        new CommonBounds(c).refusalsOfADay(16, "snows");
     }
 
-    private void heightsCall() {
+    private void heightsAndKindsCalls() {
+        CommonBounds common = new CommonBounds(c);
         c.promise(17, "HEIGHTS, as a set.");
-        c.inLand(PLAIN);
-        c.due(1023, "heights", 0);
-        c.due(1023, "heights", 1);
-        c.does("reading", 0, 2);
-        c.due(1022, "heights", 0);
-        c.due(1022, "heights", 1);
+        passCall("heights", 1023, 1022);
         c.due(1, "ofPass", 0, 4);
-        c.promise(17, "UNKNOWN.");
-        c.outside(UNKNOWN, 0, -1, "heights", HERE);
-        full();
-        c.outside(UNKNOWN, 0, 1, "heights", HERE);
-        c.inLand("v00000000;255;255;255" + ",p0111".repeat(6));
-        c.due(1023, "heights", 5);
-        c.outside(UNKNOWN, 0, 5, "heights", HERE);
+        common.refusalsOfAPass(17, "heights");
+        c.promise(18, "KINDS, as a set.");
+        passCall("kinds", 7, 5);
+        c.due(0, "ofPass", 0, 0);
+        common.refusalsOfAPass(18, "kinds");
     }
 
-    private void kindsCall() {
-        c.promise(18, "KINDS, as a set.");
-        c.inLand(PLAIN);
-        c.due(7, "kinds", 0);
-        c.due(7, "kinds", 1);
-        c.does("reading", 0, 2);
-        c.due(5, "kinds", 0);
-        c.due(5, "kinds", 1);
-        c.due(0, "ofPass", 0, 0);
-        c.promise(18, "UNKNOWN.");
-        c.outside(UNKNOWN, 0, -1, "kinds", HERE);
-        full();
-        c.outside(UNKNOWN, 0, 1, "kinds", HERE);
+    /** All there are without READINGS, fewer with one. */
+    private void passCall(String name, int all, int fewer) {
         c.inLand("v00000000;255;255;255" + ",p0111".repeat(6));
-        c.due(7, "kinds", 5);
-        c.outside(UNKNOWN, 0, 5, "kinds", HERE);
+        c.due(all, name, 5);
+        c.inLand(PLAIN);
+        c.due(all, name, 0);
+        c.due(all, name, 1);
+        c.does("reading", 0, 2);
+        c.due(fewer, name, 0);
+        c.due(fewer, name, 1);
     }
 
     private void gaveCall() {

@@ -344,33 +344,19 @@ final class SheetBounds {
     // ---- the calls of parts
 
     private void tellAndMarkCalls() {
+        CommonBounds common = new CommonBounds(c);
         c.promise(26, "TELLING of a PASS.");
         c.inLand(THREE);
         c.due(3, "tell", 0);
         c.due(104, "tell", 1);
         c.due(110, "tell", 2);
-        c.promise(26, "UNKNOWN.");
-        passUnknown("tell");
+        common.refusalsOfAPass(26, "tell");
         c.promise(27, "How it is MARKED.");
         c.inLand(THREE);
         c.due(0, "mark", 0);
         c.due(1, "mark", 1);
         c.due(80, "mark", 2);
-        c.promise(27, "UNKNOWN.");
-        passUnknown("mark");
-    }
-
-    /** Without a land, with a land that had more passes, with one pass, and with six of them. */
-    private void passUnknown(String name) {
-        c.outside(UNKNOWN, 0, -1, name, HERE);
-        c.inLand(THREE);
-        c.does("tell", 1);
-        c.outside(UNKNOWN, 0, 2, name, HERE);
-        c.text(THREE);
-        c.does("land", 0, 0, 0, 27);
-        c.outside(UNKNOWN, 0, 0, name, HERE);
-        c.inLand("v00000000;255;255;255" + ",t0119".repeat(6));
-        c.outside(UNKNOWN, 0, 5, name, HERE);
+        common.refusalsOfAPass(27, "mark");
     }
 
     private void asCall() {

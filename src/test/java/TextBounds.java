@@ -79,7 +79,8 @@ final class TextBounds {
     }
 
     private void gives() {
-        c.terms(1, ": ; and three digits 000 .. 255 (DAYS on which VALLEY 0, 1, 2 GIVES, as a set), then 1 to 6 PASSES");
+        c.terms(1, ": ; and three digits 000 .. 255 (DAYS on which VALLEY 0, 1, 2 GIVES, as a set),"
+                + " then 1 to 6 PASSES");
         for (int valley = 0; valley < 3; valley++) {
             int place = 9 + 4 * valley;
             faultsAt(place, ';' - 1, ';' + 1, ',', '0', 0, 127);
@@ -142,7 +143,8 @@ final class TextBounds {
     }
 
     private void valleys() {
-        c.terms(1, ", a digit 0 .. 2, another one 0 .. 2 that is not the same (the VALLEYS between which it goes, both ways)");
+        c.terms(1, ", a digit 0 .. 2, another one 0 .. 2 that is not the same"
+                + " (the VALLEYS between which it goes, both ways)");
         for (int p = 0; p < 6; p++) {
             int place = 23 + 6 * p;
             faultsAt(place, '0' - 1, '3', '9', ',', 'p', 0, 127);

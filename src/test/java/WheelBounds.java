@@ -26,8 +26,7 @@ final class WheelBounds {
         soonest();
         fewest();
         fewestNeedsAll();
-        soonestCall();
-        holesCall();
+        soonestAndHolesCalls();
         wayAnswers();
         wayOfTwenty();
         wayBounds();
@@ -265,36 +264,21 @@ final class WheelBounds {
 
     // ---- the calls
 
-    private void soonestCall() {
+    private void soonestAndHolesCalls() {
         c.promise(7, "SOONEST; NONE.");
         c.inLand(PLAIN);
         c.due(2, "soonest", 0);
         c.due(7, "soonest", 5);
         c.due(NONE, "soonest", 6);
         c.due(NONE, "soonest", 7);
-        c.promise(7, "OUTSIDE");
-        c.outside(OUTSIDE, 0, 7, "soonest", HERE);
-        c.inLand(PLAIN);
-        c.outside(OUTSIDE, 0, 7, "soonest", HERE);
-        c.promise(7, "STATE: there is no LAND.");
-        c.refused(STATE, "soonest", 0);
-        c.refused(STATE, "soonest", 7);
-    }
-
-    private void holesCall() {
+        new CommonBounds(c).refusalsOfADay(7, "soonest");
         c.promise(8, "FEWEST; NONE.");
         c.inLand(PLAIN);
         c.due(0, "holes", 0);
         c.due(0, "holes", 5);
         c.due(NONE, "holes", 6);
         c.due(NONE, "holes", 7);
-        c.promise(8, "OUTSIDE");
-        c.outside(OUTSIDE, 0, 7, "holes", HERE);
-        c.inLand(PLAIN);
-        c.outside(OUTSIDE, 0, 7, "holes", HERE);
-        c.promise(8, "STATE: there is no LAND.");
-        c.refused(STATE, "holes", 0);
-        c.refused(STATE, "holes", 7);
+        new CommonBounds(c).refusalsOfADay(8, "holes");
     }
 
     private void wayAnswers() {
