@@ -5,8 +5,9 @@ import java.util.Random;
 /** Runs of calls, some likely and some wild, each answered by the class and by the model. */
 public final class ModelTest {
     private static final int RUNS = 600;
-    /** A land may still be told at the end: 512 calls are promised. */
-    private static final int CALLS = 440;
+    /** Calls of telling a land, and a way. */
+    private static final int LONGEST_TELLING = 62, LONGEST_WAY = 14;
+    private static final int READING = 12;
     private static final int[] WILD = {
         Integer.MIN_VALUE, Integer.MIN_VALUE + 1, -100, -9, -2, -1, 0, 8, 9, 60, 61, 255, 256,
         Integer.MAX_VALUE - 1, Integer.MAX_VALUE,
@@ -17,6 +18,9 @@ public final class ModelTest {
     private final int wildness;
     private CheeseValleys x = new CheeseValleys();
     private Model model = new Model();
+    private final Tally tally = new Tally();
+    /** The cells by which a land was told latest: sheet, lane, from, how many. */
+    private int[] told = {0, 0, 0, 0};
     private int made;
     private boolean wrong;
 
@@ -28,15 +32,20 @@ public final class ModelTest {
     public static void main(String[] args) {
         int runs = args.length > 0 ? Integer.parseInt(args[0]) : RUNS;
         int failed = 0;
+        int rich = 0;
         for (int run = 0; run < runs && failed < 5; run++) {
             ModelTest test = new ModelTest(run);
             test.run();
+            rich += test.tally.isRich() ? 1 : 0;
             if (test.wrong) {
                 failed++;
                 System.out.println("run " + run + ": " + String.join("\n  ", test.calls));
             }
         }
-        if (failed != 0) {
+        if (rich < runs / 3) {
+            System.out.println("only " + rich + " of " + runs + " runs have all that runs are for");
+        }
+        if (failed != 0 || rich < runs / 3) {
             System.exit(1);
         }
     }
@@ -45,20 +54,29 @@ public final class ModelTest {
         if (random.nextInt(10) > 0) {
             tellLand();
         }
-        while (made < CALLS && !wrong) {
+        while (left() > 0 && !wrong) {
             int choice = random.nextInt(100);
-            if (choice < 1) {
+            if (choice < 1 && left() >= LONGEST_TELLING) {
                 tellLand();
-            } else if (choice < 5) {
+            } else if (choice < 3) {
+                land(told[0], told[1], told[2], told[3]);
+            } else if (choice < 7 && left() >= LONGEST_WAY) {
                 tellWay();
+            } else if (choice < 13) {
+                oneCall(READING);
             } else {
                 oneCall(random.nextInt(31));
             }
         }
     }
 
+    private int left() {
+        return Run.MOST_CALLS - made;
+    }
+
     private void due(String call, long got, long want) {
         made++;
+        tally.count(call, got);
         calls.add(call + " = " + got);
         if (got != want && !wrong) {
             wrong = true;
@@ -116,6 +134,7 @@ public final class ModelTest {
         for (int i = 0; i < text.length(); i++) {
             put(k, from + i, text.charAt(i));
         }
+        told = new int[] {k, lane, from, text.length()};
         land(k, lane, from, text.length());
     }
 
@@ -160,7 +179,7 @@ public final class ModelTest {
         } else {
             callOfSheets(call);
         }
-        if (random.nextInt(4) == 0) {
+        if (left() > 0 && random.nextInt(4) == 0) {
             due("fault()", x.fault(), model.fault());
         }
     }
@@ -186,7 +205,7 @@ public final class ModelTest {
             case 9: due("safe(" + fair + ")", x.safe(fair), model.safe(fair)); break;
             case 10: due("hangs" + args, x.hangs(day, fair), model.hangs(day, fair)); break;
             case 11: due("peace" + args, x.peace(day, fair), model.peace(day, fair)); break;
-            case 12: reading(day); break;
+            case READING: reading(day); break;
             case 13: due("back(" + what + ")", x.back(what), model.back(what)); break;
             case 14: due("snows(" + day + ")", x.snows(day), model.snows(day)); break;
             case 15: due("heights(" + p + ")", x.heights(p), model.heights(p)); break;
