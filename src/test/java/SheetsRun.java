@@ -97,14 +97,15 @@ final class SheetsRun {
 
     /** In a land of two passes of a day each: over both of them, then there and back over the first. */
     private void waysInBetween() {
-        run.due(1, "sheet", 0, 1, 4);
-        int[] steps = {0, 7, 1, 8};
+        run.due(1, "sheet", 0, 1, 5);
+        int[] steps = {0, 7, 6, 1, 8};
         for (int i = 0; i < steps.length; i++) {
             run.due(1, "put", 0, i, steps[i]);
         }
-        run.due(2, "way", 0, 0, 1, 0, 4, 0);
-        run.due(2, "way", 0, 0, 1, 0, 4, 4);
-        run.due(0, "way", 7, 0, 1, 0, 4, 1);
+        run.due(3, "way", 0, 0, 1, 0, 5, 0);
+        run.due(1, "way", 0, 0, 1, 0, 5, 2);
+        run.due(2, "way", 0, 0, 1, 0, 5, 4);
+        run.due(0, "way", 7, 0, 1, 0, 5, 1);
         run.due(1, "lose", 0);
         run.fault(NULL, "way", 0, 0, 1, 0, 4, 0);
         run.due(1, "sheet", 0, 2, 4);
@@ -123,14 +124,14 @@ final class SheetsRun {
 
     private void longRow() {
         run.due(1, "sheet", 2, 0, 60);
-        for (int i = 30; i < 60; i++) {
+        for (int i = 31; i < 60; i++) {
             run.due(1, "put", 2, i, 100 + i);
         }
         // 159 as a byte.
         run.due(-97, "cell", 2, 59, 0);
         run.due(1, "lose", 2);
         run.due(1, "sheet", 2, 0, 60);
-        for (int i = 30; i < 60; i++) {
+        for (int i = 31; i < 60; i++) {
             run.due(0, "cell", 2, i, 0);
         }
         run.due(1, "lose", 2);
