@@ -32,6 +32,7 @@ public final class ReadmeTest {
         ReadmeTest test = new ReadmeTest();
         String program = test.program();
         test.run(program);
+        test.partsOfAText();
         test.tables();
         DUE.end();
     }
@@ -102,6 +103,17 @@ public final class ReadmeTest {
         try (URLClassLoader loader = new URLClassLoader(new URL[] {directory.toUri().toURL()})) {
             loader.loadClass("ReadmeExamples").getMethod("run", Consumer.class).invoke(null, seen);
         }
+    }
+
+    /** The parts that the first table shows are a text of one pass, the beginning of the one that is told. */
+    private void partsOfAText() {
+        StringBuilder text = new StringBuilder();
+        for (String line : lines) {
+            Matcher matcher = Pattern.compile("\\| `([v;,][a-z0-9]+)` \\|.*").matcher(line);
+            text.append(matcher.matches() ? matcher.group(1) : "");
+        }
+        DUE.is("land by " + text, Due.landBy(new CheeseValleys(), text.toString()), 1);
+        DUE.is("lines that tell " + text, lines.stream().filter(l -> l.contains('"' + text.toString())).count(), 1);
     }
 
     private void tables() throws IOException, IllegalAccessException {
